@@ -263,19 +263,10 @@ public final class LoopTables {
     }
 
     public int unit(int table, int what) {
-        if (!has(table)) {
+        if (!has(table) || what < 0 || what > 2) {
             return NONE;
         }
-        switch (what) {
-            case 0:
-                return state.tables[table].unitElement();
-            case 1:
-                return state.tables[table].leftUnit();
-            case 2:
-                return state.tables[table].rightUnit();
-            default:
-                return NONE;
-        }
+        return state.tables[table].unitFrom(what != 2, what != 1);
     }
 
     // ---- laws ----
@@ -305,7 +296,7 @@ public final class LoopTables {
         if (!has(table) || !hasLaw(law)) {
             return NONE;
         }
-        checker.look(state.tables[table]);
+        checker.look(state.tables[table], state.tables[table].unitElement());
         return checker.failures(state.laws[law], 1) == 0 ? 1 : 0;
     }
 
@@ -313,7 +304,7 @@ public final class LoopTables {
         if (!has(table) || !hasLaw(law) || what < 0 || what > 3) {
             return NONE;
         }
-        checker.look(state.tables[table]);
+        checker.look(state.tables[table], state.tables[table].unitElement());
         if (what == 0) {
             return checker.failures(state.laws[law], TRIPLES);
         }
@@ -370,18 +361,14 @@ public final class LoopTables {
     }
 
     public int parts(int table, int what) {
-        if (!has(table)) {
+        if (!has(table) || what < 0 || what > 1) {
             return NONE;
         }
-        switch (what) {
-            case 0:
-                return Parts.closedOnes(state.tables[table]);
-            case 1:
-                return state.tables[table].unitElement() == NONE
-                        ? NONE : Parts.normalOnes(state.tables[table]);
-            default:
-                return NONE;
+        boolean normal = what == 1;
+        if (normal && state.tables[table].unitElement() == NONE) {
+            return NONE;
         }
+        return Parts.closedOnes(state.tables[table], normal);
     }
 
     public int makers(int table, int what) {
@@ -875,23 +862,11 @@ public final class LoopTables {
             return true;
         }
 
-        int leftUnit() {
+        /** The element that leaves all as they are from the left, from the right, or both. */
+        int unitFrom(boolean left, boolean right) {
             for (int e = 0; e < size; e++) {
                 int x = 0;
-                while (x < size && times(e, x) == x) {
-                    x++;
-                }
-                if (x == size) {
-                    return e;
-                }
-            }
-            return NONE;
-        }
-
-        int rightUnit() {
-            for (int e = 0; e < size; e++) {
-                int x = 0;
-                while (x < size && times(x, e) == x) {
+                while (x < size && (!left || times(e, x) == x) && (!right || times(x, e) == x)) {
                     x++;
                 }
                 if (x == size) {
@@ -902,8 +877,7 @@ public final class LoopTables {
         }
 
         int unitElement() {
-            int left = leftUnit();
-            return left == rightUnit() ? left : NONE;
+            return unitFrom(true, true);
         }
 
         int differences(Table other) {
@@ -1152,20 +1126,10 @@ public final class LoopTables {
             return Integer.bitCount(lowestOnes & below);
         }
 
-        static int closedOnes(Table table) {
+        static int closedOnes(Table table, boolean normal) {
             int found = 0;
             for (int part = 1; part < 1 << table.size; part++) {
-                if (isClosed(table, part)) {
-                    found++;
-                }
-            }
-            return found;
-        }
-
-        static int normalOnes(Table loop) {
-            int found = 0;
-            for (int part = 1; part < 1 << loop.size; part++) {
-                if (isNormal(loop, part)) {
+                if (normal ? isNormal(table, part) : isClosed(table, part)) {
                     found++;
                 }
             }
@@ -1278,12 +1242,13 @@ public final class LoopTables {
     private static final class Law {
         final int[] code;
         final int ifAt;
-        final int letters;
+        // A bit for each letter and operation that is in the code.
+        final int uses;
 
-        Law(int[] code, int ifAt, int letters) {
+        Law(int[] code, int ifAt, int uses) {
             this.code = code;
             this.ifAt = ifAt;
-            this.letters = letters;
+            this.uses = uses;
         }
     }
 
@@ -1312,7 +1277,7 @@ public final class LoopTables {
         private final int[] code = new int[2 * LETTERS];
         private int codeLength;
         private int letterCount;
-        private int letters;
+        private int uses;
 
         int place() {
             return tokenAt;
@@ -1324,7 +1289,7 @@ public final class LoopTables {
             tokenEnd = 0;
             codeLength = 0;
             letterCount = 0;
-            letters = 0;
+            uses = 0;
             goOn();
             if (!readSide()) {
                 return null;
@@ -1336,7 +1301,7 @@ public final class LoopTables {
                     return null;
                 }
             }
-            return kind == END ? new Law(Arrays.copyOf(code, codeLength), ifAt, letters) : null;
+            return kind == END ? new Law(Arrays.copyOf(code, codeLength), ifAt, uses) : null;
         }
 
         private boolean readSide() {
@@ -1382,7 +1347,6 @@ public final class LoopTables {
         private boolean readPart(int depth) {
             if (kind <= UNIT && letterCount < LETTERS) {
                 letterCount++;
-                letters |= 1 << kind;
                 emit(kind);
                 goOn();
                 return true;
@@ -1402,6 +1366,7 @@ public final class LoopTables {
             if (codeLength < code.length) {
                 code[codeLength] = operation;
                 codeLength++;
+                uses |= 1 << operation;
             }
         }
 
@@ -1455,17 +1420,27 @@ public final class LoopTables {
 
     /** Holds laws against the table that it looked at last. */
     private static final class Checker {
+        private static final int DIVISIONS = 1 << LawReader.OVER | 1 << LawReader.UNDER;
+
         private int n;
-        private final int[] times = new int[CELLS];
+        private int[] times = new int[CELLS];
+        private boolean divided;
         private final int[] over = new int[CELLS];
         private final int[] under = new int[CELLS];
         // What x, y, z and the unit stand for.
         private final int[] values = new int[LawReader.UNIT + 1];
         private final int[] stack = new int[LawReader.LETTERS + 1];
 
-        void look(Table table) {
+        void look(Table table, int unit) {
             n = table.size;
-            System.arraycopy(table.cells, 0, times, 0, n * n);
+            times = table.cells;
+            divided = false;
+            values[LawReader.UNIT] = Math.max(unit, 0);
+        }
+
+        /** Few laws divide, and the lister looks at many tables: so not ahead of a law that does. */
+        private void divide() {
+            divided = true;
             for (int x = 0; x < n; x++) {
                 for (int y = 0; y < n; y++) {
                     int z = times[n * x + y];
@@ -1473,7 +1448,6 @@ public final class LoopTables {
                     under[n * x + z] = y;
                 }
             }
-            values[LawReader.UNIT] = Math.max(table.unitElement(), 0);
         }
 
         int letterValue(int letter) {
@@ -1482,12 +1456,18 @@ public final class LoopTables {
 
         /** How many failures there are, up to a most; the values stay at the one it stops at. */
         int failures(Law law, int most) {
+            if (!divided && (law.uses & DIVISIONS) != 0) {
+                divide();
+            }
+            int xs = span(law, 0);
+            int ys = span(law, 1);
+            int zs = span(law, 2);
             int found = 0;
-            for (int x = 0; x < span(law, 0); x++) {
+            for (int x = 0; x < xs; x++) {
                 values[0] = x;
-                for (int y = 0; y < span(law, 1); y++) {
+                for (int y = 0; y < ys; y++) {
                     values[1] = y;
-                    for (int z = 0; z < span(law, 2); z++) {
+                    for (int z = 0; z < zs; z++) {
                         values[2] = z;
                         if (isBroken(law)) {
                             found++;
@@ -1502,7 +1482,7 @@ public final class LoopTables {
         }
 
         private int span(Law law, int letter) {
-            return (law.letters >> letter & 1) != 0 ? n : 1;
+            return (law.uses >> letter & 1) != 0 ? n : 1;
         }
 
         private boolean isBroken(Law law) {
@@ -1605,7 +1585,7 @@ public final class LoopTables {
             if ((hold | not) == 0) {
                 return true;
             }
-            checker.look(loop);
+            checker.look(loop, 0);
             for (int i = 0; i < laws.length; i++) {
                 boolean mustHold = (hold >> i & 1) != 0;
                 boolean mustNot = (not >> i & 1) != 0;
