@@ -42,7 +42,7 @@ public final class LoopTables {
     private final Table draft = new Table();
     private final Table walked = new Table();
     private final Checker checker = new Checker();
-    private final Lister lister = new Lister(checker);
+    private final Lister lister = new Lister();
     private final Filler filler = new Filler();
     private final Namer namer = new Namer();
     private final Namer otherNamer = new Namer();
@@ -1521,18 +1521,14 @@ public final class LoopTables {
 
     /** Goes through all loops with unit 0, lower ones ahead. */
     private static final class Lister {
-        private final Checker checker;
         final Table loop = new Table();
         int found;
+        private final Checker checker = new Checker();
         private final int[] columnUsed = new int[GREATEST];
         private Law[] laws = new Law[0];
         private int hold;
         private int not;
         private int wanted;
-
-        Lister(Checker checker) {
-            this.checker = checker;
-        }
 
         void choose(Law[] laws, int hold, int not) {
             this.laws = laws;

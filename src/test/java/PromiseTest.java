@@ -1305,6 +1305,29 @@ public final class PromiseTest {
         x.undo();
         x.back(1);
         due(45, "kept anew", x.order(0), 6);
+        keptLaws();
+    }
+
+    private static void keptLaws() {
+        LoopTables x = withRow("3" + "021" + "210" + "102");
+        x.image(0);
+        String[] held = {"x * x = x", COMMUTES, "e = e"};
+        String[] broken = {"x * x = e", JOINS, "e = x"};
+        for (String text : held) {
+            Tape.law(x, text);
+        }
+        x.image(1);
+        x.back(0);
+        for (String text : broken) {
+            Tape.law(x, text);
+        }
+        for (int law = 0; law < 3; law++) {
+            due(46, "the law that stands now", x.holds(0, law), 0);
+        }
+        x.back(1);
+        for (int law = 0; law < 3; law++) {
+            due(46, "the law that was kept", x.holds(0, law), 1);
+        }
     }
 
     private static void count() {
