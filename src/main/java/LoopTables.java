@@ -664,7 +664,7 @@ public final class LoopTables {
     }
 
     private int change(int table, int answer) {
-        state.record(table, draft);
+        state.putInPlace(table, draft);
         return accept(answer);
     }
 
@@ -974,7 +974,7 @@ public final class LoopTables {
             undone = other.undone;
         }
 
-        void record(int table, Table made) {
+        void putInPlace(int table, Table made) {
             if (done == CHANGES) {
                 letOldestGo();
             }

@@ -1,4 +1,6 @@
 import java.io.IOException;
+import java.io.PrintWriter;
+import java.io.StringWriter;
 import java.lang.management.ManagementFactory;
 import java.lang.reflect.Constructor;
 import java.lang.reflect.Executable;
@@ -10,10 +12,14 @@ import java.nio.file.Path;
 import java.util.ArrayList;
 import java.util.HashSet;
 import java.util.List;
+import java.util.Map;
+import java.util.Optional;
 import java.util.Set;
+import java.util.TreeMap;
 import java.util.TreeSet;
 import java.util.regex.Matcher;
 import java.util.regex.Pattern;
+import java.util.spi.ToolProvider;
 
 /** The face against the document's, and the rules of the language that a text or a count can show. */
 public final class RulesTest {
@@ -32,6 +38,7 @@ public final class RulesTest {
         face();
         members();
         text();
+        depth();
         room();
         System.out.println(wrong == 0 ? "all rules are kept" : wrong + " rules are broken");
         if (wrong != 0) {
@@ -39,27 +46,51 @@ public final class RulesTest {
         }
     }
 
+    /** Every line of the document's face, word for word, and nothing else that can be seen from outside. */
     private static void face() throws IOException {
         Set<String> want = new TreeSet<>();
-        Matcher said = Pattern.compile("^    public int (\\w+)\\(([^)]*)\\);", Pattern.MULTILINE)
+        Matcher said = Pattern.compile("^    public ([^;=]+?)(\\([^)]*\\)| = [^;]*);", Pattern.MULTILINE)
                 .matcher(Files.readString(DOCUMENT));
         while (said.find()) {
-            int parameters = said.group(2).isBlank() ? 0 : said.group(2).split(",").length;
-            want.add(said.group(1) + "/" + parameters);
+            String parameters = said.group(2).replaceAll("(\\w+) \\w+", "$1").replaceAll(" = .*", "");
+            want.add(said.group(1) + parameters);
         }
         Set<String> got = new TreeSet<>();
-        for (Method method : LoopTables.class.getDeclaredMethods()) {
-            if (!Modifier.isPrivate(method.getModifiers())) {
-                got.add(method.getName() + "/" + method.getParameterCount());
-                must(Modifier.isPublic(method.getModifiers()), method + " is not public");
-                must(!Modifier.isStatic(method.getModifiers()), method + " is static");
-                must(method.getReturnType() == int.class, method + " does not answer an int");
+        for (Field field : LoopTables.class.getDeclaredFields()) {
+            if (!Modifier.isPrivate(field.getModifiers())) {
+                must(Modifier.isPublic(field.getModifiers()), field + " is not public");
+                got.add(modifiers(field.getModifiers()) + field.getType().getSimpleName() + " " + field.getName());
             }
         }
-        must(want.size() == 47, "the document has " + want.size() + " methods");
+        for (Constructor<?> made : LoopTables.class.getDeclaredConstructors()) {
+            must(Modifier.isPublic(made.getModifiers()), made + " is not public");
+            got.add("LoopTables" + parameters(made));
+        }
+        for (Method method : LoopTables.class.getDeclaredMethods()) {
+            if (!Modifier.isPrivate(method.getModifiers())) {
+                must(Modifier.isPublic(method.getModifiers()), method + " is not public");
+                got.add(modifiers(method.getModifiers()) + method.getReturnType().getSimpleName() + " "
+                        + method.getName() + parameters(method));
+            }
+        }
+        must(want.size() == 49, "the document has " + want.size() + " members");
         must(got.equals(want), "the face is " + got + ", due is " + want);
-        must(LoopTables.class.getConstructors().length == 1, "constructors");
+        must(LoopTables.NONE == -1, "NONE is " + LoopTables.NONE);
+        must(Modifier.isPublic(LoopTables.class.getModifiers()), "the class is not public");
         must(Modifier.isFinal(LoopTables.class.getModifiers()), "the class is not final");
+    }
+
+    private static String modifiers(int all) {
+        String others = Modifier.toString(all & ~Modifier.PUBLIC);
+        return others.isEmpty() ? "" : others + " ";
+    }
+
+    private static String parameters(Executable one) {
+        List<String> types = new ArrayList<>();
+        for (Class<?> type : one.getParameterTypes()) {
+            types.add(type.getSimpleName());
+        }
+        return "(" + String.join(", ", types) + ")";
     }
 
     private static void members() {
@@ -140,6 +171,64 @@ public final class RulesTest {
             }
             must(lines[i].length() <= 110, "line " + (i + 1) + " is long");
         }
+    }
+
+    /** The longest chain of calls that enters no method twice, by the calls that the compiled classes have. */
+    private static void depth() {
+        Optional<ToolProvider> javap = ToolProvider.findFirst("javap");
+        if (javap.isEmpty()) {
+            System.out.println("not looked at: how deep calls go (this Java has no javap)");
+            return;
+        }
+        Map<String, Set<String>> calls = new TreeMap<>();
+        List<String> names = new ArrayList<>();
+        names.add(LoopTables.class.getName());
+        for (Class<?> one : LoopTables.class.getDeclaredClasses()) {
+            names.add(one.getName());
+        }
+        for (String name : names) {
+            addCalls(javap.get(), name, calls);
+        }
+        int deepest = 0;
+        for (String method : calls.keySet()) {
+            List<String> chain = longest(method, new ArrayList<>(), calls);
+            deepest = Math.max(deepest, chain.size());
+            must(chain.size() <= 8, "more than eight deep: " + chain);
+        }
+        must(deepest > 4, "calls were not read");
+    }
+
+    private static void addCalls(ToolProvider javap, String name, Map<String, Set<String>> calls) {
+        StringWriter told = new StringWriter();
+        String path = System.getProperty("java.class.path");
+        PrintWriter out = new PrintWriter(told);
+        javap.run(out, out, "-p", "-c", "-classpath", path, name);
+        Pattern head = Pattern.compile("  \\S.*?([\\w$]+)\\(.*\\);");
+        Pattern call = Pattern.compile(".*// Method (?:(LoopTables[\\w$]*)\\.)?\"?([\\w<>]+)\"?:.*");
+        Set<String> here = new TreeSet<>();
+        for (String line : told.toString().split("\\R")) {
+            Matcher starts = head.matcher(line);
+            Matcher goes = call.matcher(line);
+            if (starts.matches()) {
+                String method = starts.group(1).equals(name) ? "<init>" : starts.group(1);
+                here = calls.computeIfAbsent(name + "." + method, key -> new TreeSet<>());
+            } else if (goes.matches()) {
+                here.add((goes.group(1) == null ? name : goes.group(1)) + "." + goes.group(2));
+            }
+        }
+    }
+
+    private static List<String> longest(String method, List<String> open, Map<String, Set<String>> calls) {
+        List<String> chain = new ArrayList<>(open);
+        chain.add(method);
+        List<String> best = chain;
+        for (String next : calls.getOrDefault(method, Set.of())) {
+            if (!chain.contains(next)) {
+                List<String> found = longest(next, chain, calls);
+                best = found.size() > best.size() ? found : best;
+            }
+        }
+        return best;
     }
 
     /** What a run of the dearest calls makes: far below 7.3 million fields and elements. */
